@@ -412,20 +412,20 @@ public final class DearVotes {
 
         int groupOf(int p, int t) {
             int reached = 1 << p;
-            int asked = 0;
-            for (int step = 0; step < people && asked != reached; step++) {
-                int next = Integer.numberOfTrailingZeros(reached & ~asked);
-                asked |= 1 << next;
-                reached |= alikeTo(next, t);
+            int before = 0;
+            for (int pass = 0; pass < people && reached != before; pass++) {
+                before = reached;
+                for (int r = 0; r < people; r++) {
+                    if ((reached >> r & 1) == 1) {
+                        reached |= alikeTo(r, t);
+                    }
+                }
             }
             return reached;
         }
 
         int alikeTo(int p, int t) {
             int bits = 0;
-            if (!hasPerson(p)) {
-                return bits;
-            }
             for (int r = 0; r < people; r++) {
                 if (likenessOf(p, r) >= t) {
                     bits |= 1 << r;
@@ -514,7 +514,7 @@ public final class DearVotes {
 
         private void addChoice(int q, int v, int gain) {
             int at = choices[q];
-            if (at >= MOST_CHOICES || !isWithin(v, -MOST_VOICES, MOST_VOICES)) {
+            if (at >= MOST_CHOICES || v < -MOST_VOICES || v > MOST_VOICES) {
                 return;
             }
             choiceVoices[q][at] = v;
@@ -597,23 +597,19 @@ public final class DearVotes {
             return done;
         }
 
+        /** How many people changed their voices in it. */
         private int doRound() {
             int changes = 0;
             for (int p = 0; p < house.people; p++) {
-                if (house.present[p] && improves(p)) {
-                    changes++;
+                if (house.present[p]) {
+                    search.findFor(p);
+                    if (search.foundGain > house.gainOf(p)) {
+                        search.giveTo(p);
+                        changes++;
+                    }
                 }
             }
             return changes;
-        }
-
-        private boolean improves(int p) {
-            search.findFor(p);
-            if (search.foundGain <= house.gainOf(p)) {
-                return false;
-            }
-            search.giveTo(p);
-            return true;
         }
 
         private void noteVoices(int row) {
@@ -732,16 +728,17 @@ public final class DearVotes {
             }
             long rest = pot * lows[j] % sum;
             long lack = pot;
-            int served = 0;
+            // What lacks is less than the projects with a rest: none is served twice.
+            int servedAhead = 0;
             for (int i = 0; i < projects; i++) {
                 lack -= pot * lows[i] / sum;
                 long other = pot * lows[i] % sum;
                 if (other > rest || other == rest && i < j) {
-                    served++;
+                    servedAhead++;
                 }
             }
             long whole = pot * lows[j] / sum;
-            return served < lack ? whole + 1 : whole;
+            return servedAhead < lack ? whole + 1 : whole;
         }
 
         long digestPerson(long before, int p) {

@@ -92,6 +92,9 @@ public final class BestAnswersTest {
         DearVotes x = Houses.of(2, 25, 50);
         Houses.votes(x, 1, -3, 2);
         Houses.worths(x, 0, 5, -5);
+        checks.due("answer(0, 1) ahead of best(0)", x.answer(0, 1), -3);
+        checks.due("answer(1, 1) of another one", x.answer(1, 1), 0);
+        checks.due("answer(0, 0)", x.answer(0, 0), 4);
         answers("two against one", x, 0, 10, 4, -3);
         Houses.votes(x, 0, 1, 1);
         answers("its own voices are as none", x, 0, 10, 4, -3);
@@ -113,6 +116,8 @@ public final class BestAnswersTest {
         answers("the least for question 0 is 0", x, 0, 0, 0, -1, 0);
         Houses.worths(x, 0, 0, 5, 5);
         answers("what is worth nothing gets nothing", x, 0, 15, 0, 0, 1);
+        Houses.worths(x, 0, 5, 5, 0);
+        answers("the last is worth nothing", x, 0, 15, 0, 1, 0);
         Houses.worths(x, 0, 0, 0, 0);
         Houses.votes(x, 0, 1);
         answers("nothing is worth anything", x, 0, 0, 0, 0, 0);
@@ -315,22 +320,35 @@ public final class BestAnswersTest {
         checks.due("again: ring()", x.ring(), 2);
     }
 
-    /** A long way to a ring, and one that is not found in 30 rounds: the model found them. */
     private static void promise20LongRings() {
+        checks.due("play(11)", houseOfLongRing().play(11), 11);
+        DearVotes x = houseOfLongRing();
+        checks.due("play(30)", x.play(30), 12);
+        checks.due("ended()", x.ended(), 2);
+        checks.due("ring()", x.ring(), 10);
+        DearVotes y = houseOfLongRing();
+        y.play(11);
+        checks.due("a round ahead of the ring's end", y.ended(), 0);
+
+        // 30 rounds are too few, and 30 more are just enough.
+        DearVotes great = Houses.of(3, 777, 950, 1161);
+        Houses.worths(great, 0, 1, 0, -1);
+        Houses.worths(great, 1, -5, 5, -4);
+        Houses.worths(great, 2, 2, 2, 2);
+        checks.due("great: play(30)", great.play(30), 30);
+        checks.due("great: ended()", great.ended(), 0);
+        checks.due("great: ring()", great.ring(), 0);
+        checks.due("great again: play(30)", great.play(30), 30);
+        checks.due("great again: ended()", great.ended(), 2);
+        checks.due("great again: ring()", great.ring(), 14);
+    }
+
+    private static DearVotes houseOfLongRing() {
         DearVotes x = Houses.of(3, 7, 6, 4);
         Houses.worths(x, 0, -3, 2, -2);
         Houses.worths(x, 1, 1, -2, -3);
         Houses.worths(x, 2, 1, 3, 1);
-        checks.due("play(11)", x.play(11), 11);
-        checks.due("not yet", x.ended(), 0);
-
-        DearVotes whole = Houses.of(3, 7, 6, 4);
-        Houses.worths(whole, 0, -3, 2, -2);
-        Houses.worths(whole, 1, 1, -2, -3);
-        Houses.worths(whole, 2, 1, 3, 1);
-        checks.due("play(30)", whole.play(30), 12);
-        checks.due("ended()", whole.ended(), 2);
-        checks.due("ring()", whole.ring(), 10);
+        return x;
     }
 
     private static void promise20NoRingOverPlays() {

@@ -106,6 +106,16 @@ public final class GiftsTest {
         // 3 pairs of 2 and 1 (362 to 363), 3 pairs of 1 and 1 (256): 1854 and 1857 by 128.
         matches("three roots and three squares", four, 0, 14, 15);
 
+        DearVotes edge = Houses.ofGivers(2, 1);
+        // 153 times 4183 is 639999, one less than five times 128000.
+        Houses.gifts(edge, 0, 267, 1);
+        edge.bond(0, 1, 153);
+        matches("just below", edge, 0, 4, 6);
+        // 843 times 4707 is 3968001, one more than 31 times 128000.
+        Houses.gifts(edge, 0, 1, 338);
+        edge.bond(0, 1, 843);
+        matches("just above", edge, 0, 30, 32);
+
         DearVotes full = Houses.ofGivers(12, 1);
         for (int p = 0; p < 12; p++) {
             full.gift(p, 0, 1000000);
@@ -151,6 +161,9 @@ public final class GiftsTest {
         shares("gifts of those ABSENT count", x, 10, 1, 0, 9);
         x.bond(0, 1, 0);
         shares("no bond, no match", x, 1000, 0, 0, 0);
+        x.bond(0, 1, 56);
+        // MATCHED LOW are 0, 0, 1 (of 1.008).
+        shares("the least match", x, 1000, 0, 0, 1000);
     }
 
     private static void promise24Rests() {

@@ -28,7 +28,29 @@ public final class ModelTest {
         for (int run = 0; run < 240; run++) {
             new ModelTest(run).go(run % 5 != 0);
         }
+        greatRing();
         checks.end();
+    }
+
+    /** The rounds of BestAnswersTest that take all of 30. */
+    private static void greatRing() {
+        PlainHouse y = new PlainHouse();
+        int[] budgets = {777, 950, 1161};
+        int[][] worths = {{1, 0, -1}, {-5, 5, -4}, {2, 2, 2}};
+        for (int p = 0; p < 3; p++) {
+            y.person(budgets[p]);
+            y.question();
+        }
+        for (int p = 0; p < 3; p++) {
+            for (int q = 0; q < 3; q++) {
+                y.worth(p, q, worths[p][q]);
+            }
+        }
+        checks.due("model: play(30)", y.play(30), 30);
+        checks.due("model: ended()", y.ended(), 0);
+        checks.due("model: play(30) again", y.play(30), 30);
+        checks.due("model: ended() then", y.ended(), 2);
+        checks.due("model: ring() then", y.ring(), 14);
     }
 
     /** Of the numbers from least to most, by a run of its own for each test. */

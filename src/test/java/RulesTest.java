@@ -59,8 +59,7 @@ public final class RulesTest {
         Matcher matcher = Pattern.compile("\\b([A-Z]\\w*[a-z]\\w*)\\.(\\w+)").matcher(code);
         while (matcher.find()) {
             String call = matcher.group();
-            boolean known = call.equals("System.arraycopy") || call.equals("House.gainBy")
-                || call.equals("Integer.numberOfTrailingZeros");
+            boolean known = call.equals("System.arraycopy") || call.equals("House.gainBy");
             checks.holds(call + " is known as allowed", known);
         }
     }
