@@ -266,15 +266,8 @@ public final class BestAnswersTest {
         checks.due("ended()", x.ended(), 2);
     }
 
-    /**
-     * Behind its rounds 1 to 4 the voices are (1, 1) (-1, 0), (2, 1) (0, -1), (1, 2) (-1, 0),
-     * and, as behind round 2, (2, 1) (0, -1).
-     */
     private static DearVotes houseOfRing() {
-        DearVotes x = Houses.of(2, 5, 1);
-        Houses.worths(x, 0, 3, 3);
-        Houses.worths(x, 1, -3, -2);
-        return x;
+        return Houses.ofWorths(Houses.RING_OF_TWO);
     }
 
     private static void promise19EndedAndPromise20Ring() {

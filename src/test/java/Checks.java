@@ -4,12 +4,18 @@ import java.util.function.LongSupplier;
 final class Checks {
     private int made;
     private int wrong;
+    private String place = "";
+
+    /** What is checked from here on is told with this ahead of it. */
+    void at(String place) {
+        this.place = place;
+    }
 
     void due(String call, long got, long want) {
         made++;
         if (got != want) {
             wrong++;
-            System.out.println(call + " answered " + got + ", due is " + want);
+            System.out.println(place + call + " answered " + got + ", due is " + want);
         }
     }
 
@@ -25,11 +31,11 @@ final class Checks {
         holds(call + " changes nothing: " + before + " / " + after, before.equals(after));
     }
 
-    /** All that may be changed, as one text. */
-    static String allOf(DearVotes x) {
+    /** All that may be changed, as one text, in few calls: an object has 512 of them. */
+    private static String allOf(DearVotes x) {
         StringBuilder text = new StringBuilder();
         text.append(x.digest());
-        for (int what = 0; what <= 5; what++) {
+        for (int what = 0; what <= 2; what++) {
             text.append(' ').append(x.count(what));
         }
         text.append(' ').append(x.ended()).append(' ').append(x.ring());

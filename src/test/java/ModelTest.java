@@ -1,9 +1,12 @@
+import java.util.Arrays;
+
 /** All promises: long runs of calls, each answered by the program and by PlainHouse alike. */
 public final class ModelTest {
     /** Questions, greatest budget: so many voices as PlainHouse can still try one by one. */
     private static final int[][] SIZES = {
         {1, 2000}, {2, 2000}, {2, 60}, {3, 120}, {3, 30}, {4, 30}, {5, 14}, {6, 10}};
-    private static final int CALLS = 160;
+    /** An object has 512 calls: as many as end a run, with those of its last step. */
+    private static final int CALLS = 500;
 
     private static final Checks checks = new Checks();
 
@@ -28,29 +31,26 @@ public final class ModelTest {
         for (int run = 0; run < 240; run++) {
             new ModelTest(run).go(run % 5 != 0);
         }
-        greatRing();
+        ends();
         checks.end();
     }
 
-    /** The rounds of BestAnswersTest that take all of 30. */
-    private static void greatRing() {
-        PlainHouse y = new PlainHouse();
-        int[] budgets = {777, 950, 1161};
-        int[][] worths = {{1, 0, -1}, {-5, 5, -4}, {2, 2, 2}};
-        for (int p = 0; p < 3; p++) {
-            y.person(budgets[p]);
-            y.question();
-        }
-        for (int p = 0; p < 3; p++) {
-            for (int q = 0; q < 3; q++) {
-                y.worth(p, q, worths[p][q]);
+    /** The houses whose ends of a PLAY other tests tell: PlainHouse finds the same ends. */
+    private static void ends() {
+        int[][] great = {{777, 950, 1161}, {1, 0, -1}, {-5, 5, -4}, {2, 2, 2}};
+        int[][][] houses = {great, Houses.RACE, Houses.RING_OF_TWO, Houses.RING_OF_THIRTY,
+            Houses.REST_AT_THIRTY, Houses.LIKE_COUNTS, Houses.LIKE_COSTS};
+        for (int[][] house : houses) {
+            DearVotes x = Houses.ofWorths(house);
+            PlainHouse y = PlainHouse.ofWorths(house);
+            for (int play = 1; play <= 2; play++) {
+                String when = "budgets " + Arrays.toString(house[0]) + ", PLAY " + play + ": ";
+                checks.due(when + "play(30)", x.play(30), y.play(30));
+                checks.due(when + "ended()", x.ended(), y.ended());
+                checks.due(when + "ring()", x.ring(), y.ring());
+                checks.due(when + "digest()", x.digest(), y.digest());
             }
         }
-        checks.due("model: play(30)", y.play(30), 30);
-        checks.due("model: ended()", y.ended(), 0);
-        checks.due("model: play(30) again", y.play(30), 30);
-        checks.due("model: ended() then", y.ended(), 2);
-        checks.due("model: ring() then", y.ring(), 14);
     }
 
     /** Of the numbers from least to most, by a run of its own for each test. */
@@ -81,6 +81,7 @@ public final class ModelTest {
     }
 
     private void due(String call, long got, long want) {
+        calls++;
         checks.due(name + calls + ": " + call, got, want);
     }
 
@@ -88,7 +89,7 @@ public final class ModelTest {
         if (filled) {
             fill();
         }
-        for (calls = 0; calls < CALLS; calls++) {
+        while (calls < CALLS) {
             call();
             due("digest()", x.digest(), y.digest());
         }

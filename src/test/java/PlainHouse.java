@@ -27,6 +27,19 @@ final class PlainHouse {
     private int bestCost;
     private int[] best;
 
+    /** As Houses.ofWorths. */
+    static PlainHouse ofWorths(int[][] rows) {
+        PlainHouse y = new PlainHouse();
+        for (int budget : rows[0]) {
+            y.person(budget);
+        }
+        y.questions = rows[1].length;
+        for (int p = 0; p < rows[0].length; p++) {
+            System.arraycopy(rows[p + 1], 0, y.people.get(p).worths, 0, rows[p + 1].length);
+        }
+        return y;
+    }
+
     private boolean noPerson(int p) {
         return p < 0 || p >= people.size();
     }

@@ -21,6 +21,7 @@ public final class RulesTest {
         signs(text, code);
         library(code);
         methods(code);
+        objects(code);
         checks.end();
     }
 
@@ -77,5 +78,19 @@ public final class RulesTest {
             checks.holds(matcher.group().trim() + " has 7 parameters at most", parameters <= 7);
         }
         checks.holds("all methods are seen: " + found, found >= 50);
+    }
+
+    /** All runs share one room: the fields and the constructor make the objects, and no call does. */
+    private static void objects(String code) {
+        int found = 0;
+        for (String line : code.split("\n")) {
+            if (line.matches(".*\\bnew\\b.*")) {
+                found++;
+                boolean isField = line.matches(" +final \\S+ \\w+ = new .*");
+                boolean isConstructor = line.matches(" {8}\\w+ = new (House|Search|Rounds|Fund)\\(.*");
+                checks.holds("not in a call: " + line.trim(), isField || isConstructor);
+            }
+        }
+        checks.holds("all objects are seen: " + found, found >= 10);
     }
 }
